@@ -361,7 +361,7 @@ public final class WordKeys {
             } else if (from >= count) {
                 sort = END;
             } else {
-                sort = SIGNS.indexOf((char) bytes[from]) >= 0 ? bytes[from] : NO_TOKEN;
+                sort = SIGNS.indexOf((char) (bytes[from] & 255)) >= 0 ? bytes[from] : NO_TOKEN;
                 after++;
             }
         }
@@ -1426,8 +1426,7 @@ public final class WordKeys {
         private boolean putOne() {
             for (int place = 0; place <= notes.rowCount; place++) {
                 for (int word = 0; word < opened.words; word++) {
-                    putFirst(place, word);
-                    if (isSentenceWith(1)) {
+                    if (putFirst(place, word) && isSentenceWith(1)) {
                         return true;
                     }
                 }
@@ -1435,9 +1434,19 @@ public final class WordKeys {
             return false;
         }
 
-        private void putFirst(int place, int word) {
+        /** False behind a word that is the same one: ahead of it, that row was tried. */
+        private boolean putFirst(int place, int word) {
             putIn[FIRST_PLACE] = place;
             putIn[FIRST_WORD] = word;
+            return place == 0 || notes.row[place - 1] != word;
+        }
+
+        /** False if the same two, put in the other way about, come to a row that was tried. */
+        private boolean putSecond(int place, int word) {
+            putIn[SECOND_PLACE] = place;
+            putIn[SECOND_WORD] = word;
+            int behind = place - putIn[FIRST_PLACE];
+            return behind > 1 || (behind == 1 ? word > putIn[FIRST_WORD] : word >= putIn[FIRST_WORD]);
         }
 
         private boolean putTwo() {
@@ -1448,12 +1457,13 @@ public final class WordKeys {
             Arrays.fill(pairs, 0);
             for (int first = 0; first < (notes.rowCount + 1) * words; first++) {
                 int place = first / words;
-                putFirst(place, first % words);
+                if (!putFirst(place, first % words)) {
+                    continue;
+                }
                 // a second one farther ahead would have been the first one of a row that was tried
                 for (int second = place * words; second < (notes.rowCount + 2) * words; second++) {
-                    putIn[SECOND_PLACE] = second / words;
-                    putIn[SECOND_WORD] = second % words;
-                    if (canPairComeOutEven() && isSentenceWith(2)) {
+                    boolean isNew = putSecond(second / words, second % words);
+                    if (isNew && canPairComeOutEven() && isSentenceWith(2)) {
                         return true;
                     }
                 }
