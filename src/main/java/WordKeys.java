@@ -528,6 +528,7 @@ public final class WordKeys {
             }
         }
 
+        /** A 4th or is left standing, where only the line's end can. */
         private void readWord(Lexicon into) {
             tape.next();
             long name = tape.name;
@@ -539,9 +540,6 @@ public final class WordKeys {
             while (fault == 0 && isKeyword(OR) && into.hasRoomForTag()) {
                 tape.next();
                 into.addTag(readTag(into, 0));
-            }
-            if (fault == 0 && isKeyword(OR)) {
-                refuse(MISPLACED);
             }
         }
 

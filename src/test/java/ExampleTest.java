@@ -134,6 +134,18 @@ public final class ExampleTest {
         check.due("no such word below", x.learnt(-2, 0), -3);
         check.due("no such word", x.learnt(4, 0), -3);
         check.due("no such word far", x.learnt(Integer.MAX_VALUE, 0), -3);
+        // tags that were tried for a place are not those that are learnt
+        x.could(0, 2, 0);
+        check.due("the first word's number", x.learnt(0, 0), 0);
+        x = Check.with("kind a;goal a/a;word p is a;word q is a;word r is a;word s is a;");
+        tell(x, "p", true);
+        tell(x, "q", true);
+        tell(x, "r", true);
+        tell(x, "s", true);
+        x.could(0, 1, 0);
+        learntRow(x, 0, 4, 1, 1, 1, 1);
+        tell(x, "p q", false);
+        learntRow(x, 0, -1, -1, -1, -1, -1);
         x = Check.with("kind a;word p is a;word q is a;word r is a;word s is a;word t is a;");
         check.due("five words", x.learnt(-1, 0), -2);
         check.due("five words, the last", x.learnt(4, 0), -2);

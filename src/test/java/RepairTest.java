@@ -181,6 +181,8 @@ public final class RepairTest {
         put(x, "p q g g g g g g", -1, -1, -1, -1, -1);
         x = Check.with("kind s;kind a;kind b;word p is a;word q is b;word r is b\\(a\\s);");
         put(x, "r", 2, 0, 1, 0, 1);
+        x = Check.with("kind b;kind a;word p is a or (b/a)/a;");
+        put(x, "p", 2, 0, 0, 0, 0);
         // at one place twice: the second one stands ahead of the first
         x = Check.with("kind s;kind a;kind b;word q is b;word p is a;word r is b\\(a\\s);");
         put(x, "r", 2, 0, 0, 0, 1);

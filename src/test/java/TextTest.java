@@ -9,6 +9,7 @@ public final class TextTest {
         end();
         lexicon();
         lexiconKeepsAndEmpties();
+        shorterLexicons();
         lexiconFaults();
         limitsOfTags();
         row();
@@ -146,6 +147,30 @@ public final class TextTest {
         check.due("lost of the empty row", x.lost(), -1);
         check.due("the old word is gone", Check.row(x, "w"), -1);
         check.due("no lexicon's fault", x.fault(0), 5);
+        check.due("nothing to untell", x.untell(0), false);
+        check.due("nothing to judge", x.judge(7), -1);
+        check.due("nothing to learn from", x.learnt(-1, 7), 0);
+        Check.row(x, "v");
+        x.example(true);
+        check.due("an example judged wrong", x.judge(7), 0);
+        Check.lexicon(x, "kind b;kind c;word v is c/c;");
+        check.due("the example is gone", x.judge(7), -1);
+        check.due("and not learnt from", x.learnt(0, 7), 0);
+        check.due("nor to be untold", x.untell(0), false);
+    }
+
+    /** What an older lexicon told must not be known to a shorter one. */
+    private static void shorterLexicons() {
+        WordKeys x = Check.with("kind a;kind b;word p is a;word q is a or b;goal b;");
+        Check.lexicon(x, "kind a;word p is a;");
+        check.due("without b", Check.lexicon(x, "kind a;word p is a;"), 1);
+        check.due("without q", Check.row(x, "q"), -1);
+        check.due("q is no word", x.fault(0), 5);
+        check.due("the goal is KIND 0 again", Check.row(x, "p") + 10 * x.readings(), 11);
+        check.due("b is no kind", Check.lexicon(x, "kind a;word p is b;"), -1);
+        check.due("b is no kind: fault", x.fault(0), 5);
+        check.due("names are free again", Check.lexicon(x, "kind q;word b is q;word a is q;"), 2);
+        check.due("tags of b", x.tags(0), 1);
     }
 
     private static void faultOf(String text, int fault, int place) {
