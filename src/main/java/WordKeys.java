@@ -141,10 +141,7 @@ public final class WordKeys {
         if (notes.rowCount == 0) {
             return 0;
         }
-        trial.begin(Opened.GOAL);
-        for (int place = 0; place < notes.rowCount; place++) {
-            trial.addWord(notes.row[place]);
-        }
+        trial.beginWithRow(notes);
         return trial.countEven(MOST_CHOICES);
     }
 
@@ -1028,6 +1025,13 @@ public final class WordKeys {
             goal = goalSlot;
         }
 
+        void beginWithRow(Notes notes) {
+            begin(Opened.GOAL);
+            for (int place = 0; place < notes.rowCount; place++) {
+                addWord(notes.row[place]);
+            }
+        }
+
         void addWord(int word) {
             addSlots(Opened.firstSlot(word), opened.tagCounts[word]);
         }
@@ -1152,10 +1156,7 @@ public final class WordKeys {
             isKnown = true;
             isSpent = false;
             count = 0;
-            trial.begin(Opened.GOAL);
-            for (int place = 0; place < notes.rowCount; place++) {
-                trial.addWord(notes.row[place]);
-            }
+            trial.beginWithRow(notes);
             trial.search(this);
         }
 
@@ -1332,8 +1333,9 @@ public final class WordKeys {
             orderPairs = NONE;
             orderDigits = NONE;
             int words = notes.rowCount;
+            trial.beginWithRow(notes);
             // an order changes no sums: without an even choice none can help
-            if (words > MOST_ORDERED || !canComeOutEven()) {
+            if (words > MOST_ORDERED || trial.countEven(1) == 0) {
                 return;
             }
             for (int many = 0; many <= words * (words - 1) / 2; many++) {
@@ -1341,18 +1343,6 @@ public final class WordKeys {
                     orderPairs = many;
                     return;
                 }
-            }
-        }
-
-        private boolean canComeOutEven() {
-            beginWithRow();
-            return trial.countEven(1) > 0;
-        }
-
-        private void beginWithRow() {
-            trial.begin(Opened.GOAL);
-            for (int place = 0; place < notes.rowCount; place++) {
-                trial.addWord(notes.row[place]);
             }
         }
 
@@ -1474,7 +1464,7 @@ public final class WordKeys {
             int other = putIn[SECOND_WORD];
             int i = Math.min(one, other) * Lexicon.MOST_WORDS + Math.max(one, other);
             if (pairs[i] == 0) {
-                beginWithRow();
+                trial.beginWithRow(notes);
                 trial.addWord(one);
                 trial.addWord(other);
                 pairs[i] = trial.countEven(1) > 0 ? 1 : 2;
