@@ -43,6 +43,7 @@ public final class EdgeExampleTest {
         backRefused();
         backAndTheTimeGoesOn();
         backToFullAndEmpty();
+        as512Calls();
         check.finish("EdgeExampleTest");
     }
 
@@ -710,5 +711,34 @@ public final class EdgeExampleTest {
         check.due("back to the empty one again", x.back(0), 0);
         check.due("numbers from 0 on", tell(x, "j r", true), 0);
         check.due("not UNTOLD as those before", x.untell(0), true);
+    }
+
+    /** "An object is used for at most 512 calls": the last of them answers as the first ones did. */
+    private static void as512Calls() {
+        WordKeys x = new WordKeys();
+        int calls = 0;
+        for (int round = 0; round < 12; round++) {
+            // 5 calls for the LEXICON, 5 for each EXAMPLE and its ROW, 7 behind them
+            calls += 5 + 5 * 5 + 7;
+            Check.type(x, "kind s;kind n;word j is n;word r is n\\s;");
+            check.due("lexicon " + round, x.lexicon(), 2);
+            for (int number = 0; number < 5; number++) {
+                Check.type(x, number % 2 == 0 ? "j r" : "r j");
+                check.due("row " + round, x.row(), 2);
+                check.due("example " + round, x.example(number % 2 == 0), number);
+            }
+            check.due("readings " + round, x.readings(), 1);
+            check.due("judge " + round, x.judge(round), -1);
+            check.due("learnt " + round, x.learnt(1, round), 6);
+            check.due("image " + round, x.image(round % 3), 5);
+            check.due("back " + round, x.back(round % 3), 5);
+            check.due("later " + round, x.later(1), round + 1);
+            check.due("mended " + round, x.mended(1), 12);
+        }
+        check.due("so far", calls, 444);
+        for (; calls < 511; calls++) {
+            x.example(true);
+        }
+        check.due("the 512th", x.about(3), 12);
     }
 }
