@@ -534,7 +534,7 @@ public final class WordKeys {
             }
             into.addWord(name);
             into.addTag(readTag(into, 0));
-            while (fault == 0 && isKeyword(OR) && into.hasRoomForTag()) {
+            for (int tags = 1; tags < Lexicon.MOST_TAGS && fault == 0 && isKeyword(OR); tags++) {
                 tape.next();
                 into.addTag(readTag(into, 0));
             }

@@ -3,8 +3,10 @@ import java.util.ArrayList;
 import java.util.Arrays;
 import java.util.Collections;
 import java.util.Deque;
+import java.util.HashMap;
 import java.util.HashSet;
 import java.util.List;
+import java.util.Map;
 import java.util.Set;
 
 /**
@@ -70,6 +72,8 @@ final class Model {
     int kinds;
     T goal;
     final List<List<T>> words = new ArrayList<>();
+    /** Rows that were asked for: one and the same is asked for again and again. */
+    private final Map<List<Integer>, Boolean> sentences = new HashMap<>();
 
     /** All tags of up to two slashes in the order of their NUMBERS. */
     List<T> numbered(int slashes) {
@@ -295,7 +299,12 @@ final class Model {
     }
 
     boolean isSentence(List<Integer> row) {
-        return isSentence(tagsOf(row), goal);
+        Boolean known = sentences.get(row);
+        if (known == null) {
+            known = isSentence(tagsOf(row), goal);
+            sentences.put(new ArrayList<>(row), known);
+        }
+        return known;
     }
 
     List<List<T>> tagsOf(List<Integer> row) {

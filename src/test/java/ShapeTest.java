@@ -106,7 +106,22 @@ public final class ShapeTest {
         check.due("no joining by +", Pattern.compile("\"\"\\s*\\+|\\+\\s*\"\"").matcher(code).find(), false);
         check.due("no library but Arrays", code.split("\\bimport\\b", -1).length - 1, 1);
         check.due("no endless loop", Pattern.compile("while\\s*\\(true\\)|for\\s*\\(\\s*;\\s*;").matcher(code).find(), false);
+        loopsCount(code);
         check.due("no static initialiser", Pattern.compile("static\\s*\\{").matcher(code).find(), false);
+    }
+
+    /** Rule 9: a counter against a bound stands in the loop's own line. */
+    private static void loopsCount(String code) {
+        Matcher loop = Pattern.compile("\\b(for|while) \\((.*)\\) \\{").matcher(code);
+        int loops = 0;
+        while (loop.find()) {
+            boolean isFor = loop.group(1).equals("for");
+            String[] parts = loop.group(2).split(";", -1);
+            String test = isFor && parts.length == 3 ? parts[1] : loop.group(2);
+            loops++;
+            check.due("a bound in: " + loop.group(), Pattern.compile(" [<>]=? ").matcher(test).find(), true);
+        }
+        check.due("all loops were found", loops, code.split("\\b(for|while)\\b", -1).length - 1);
     }
 
     private static void methodsAreShort(String source) {
