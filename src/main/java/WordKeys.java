@@ -1136,6 +1136,8 @@ public final class WordKeys {
         int count;
         boolean isSpent;
         boolean isKnown;
+        /** Of the READING that is read off: its first long, HOLES and numbers so far. */
+        int base;
         int holes;
         int told;
 
@@ -1158,6 +1160,9 @@ public final class WordKeys {
             count = 0;
             trial.beginWithRow(notes);
             trial.search(this);
+            for (int reading = 0; reading < count && !isSpent; reading++) {
+                readOff(reading);
+            }
         }
 
         /** Keeps the strings as they are tied; true when there is no more to keep. */
@@ -1169,16 +1174,30 @@ public final class WordKeys {
             int from = count * LONGS;
             Arrays.fill(kept, from, from + LONGS, -1L);
             for (int end = 0; end < strings.count; end++) {
-                write(TIES + end, strings.partners[end]);
+                kept[from + (TIES + end) / 8] ^= (long) (strings.partners[end] ^ BLANK) << end % 8 * 8;
             }
             for (int place = 0; place < trial.count; place++) {
-                write(CHOSEN + place, trial.picked[place]);
+                kept[from + CHOSEN / 8] ^= (long) (trial.picked[place] ^ BLANK) << place * 8;
             }
+            count++;
+            return false;
+        }
+
+        /** Ties once more as was kept, and writes down what it means. */
+        private void readOff(int reading) {
+            for (int place = 0; place < trial.count; place++) {
+                strings.lay(trial.firsts[place] + value(reading, CHOSEN, place), place);
+            }
+            strings.lay(trial.goal, NONE);
+            for (int end = 0; end < strings.count; end++) {
+                strings.partners[end] = value(reading, TIES, end);
+            }
+            base = reading * LONGS;
             holes = 0;
             told = 0;
             tell(goalEnd(), NONE, 0);
-            count++;
-            return false;
+            Arrays.fill(strings.partners, NONE);
+            strings.liftTo(0);
         }
 
         private int goalEnd() {
@@ -1191,7 +1210,8 @@ public final class WordKeys {
 
         /** What a WANTED end means, and over which number it stands. */
         private void tell(int wanted, int above, int depth) {
-            if (depth > Strings.MOST) {
+            int given = strings.partners[wanted];
+            if (depth > Strings.MOST || given < 0) {
                 return;
             }
             int hole = strings.children[wanted];
@@ -1202,7 +1222,6 @@ public final class WordKeys {
                 holes++;
                 hole = strings.siblings[hole];
             }
-            int given = strings.partners[wanted];
             boolean isWord = strings.parents[given] == NONE;
             int own = isWord ? strings.places[given] : HOLE + holeNumbers[given];
             write(MEANING + told, own);
@@ -1217,10 +1236,9 @@ public final class WordKeys {
             }
         }
 
+        /** Into a byte that nothing was written into. */
         private void write(int part, int number) {
-            int shift = part % 8 * 8;
-            int i = count * LONGS + part / 8;
-            kept[i] = kept[i] & ~(255L << shift) | (long) number << shift;
+            kept[base + part / 8] ^= (long) (number ^ BLANK) << part % 8 * 8;
         }
 
         int value(int reading, int part, int i) {
